@@ -9,6 +9,7 @@ public final class CallTraces {
     private static final int CELLS = 8;
     private static final int MEMBERS = 4;
     private static final int KINDS = 16;
+    private static final int MATHS = 5;
     private static final int MOST_PRICE = 50;
     private static final long MOST_FUNDS = 1000000000L;
     private static final int MOST_LIMIT = 100;
@@ -164,7 +165,7 @@ public final class CallTraces {
         }
         Trace made = traces[traceCount];
         made.ask(account, member, argument, limit, now);
-        walker.walkWhole(made);
+        walker.walk(made, NEVER);
         if (made.failure == FINE) {
             System.arraycopy(walker.work, 0, now, 0, STATE_LONGS);
         }
@@ -276,7 +277,8 @@ public final class CallTraces {
         if (!isKept(trace) || k < 0 || k > traces[trace].steps) {
             return UNKNOWN;
         }
-        walker.walkAnew(traces[trace], k);
+        walker.spare.askAgain(traces[trace]);
+        walker.walk(walker.spare, k);
         return digestOfState(walker.work);
     }
 
@@ -407,11 +409,11 @@ public final class CallTraces {
         }
 
         boolean hasAccount(long account) {
-            return isWithin(account, accountCount);
+            return account >= 0 && account < accountCount;
         }
 
         int programOf(long account, int member) {
-            if (!hasAccount(account) || !isWithin(member, MEMBERS)) {
+            if (account < 0 || account >= accountCount || member < 0 || member >= MEMBERS) {
                 return NO_PROGRAM;
             }
             return members[(int) account * MEMBERS + member];
@@ -430,24 +432,20 @@ public final class CallTraces {
             count = 0;
         }
 
-        void addRead(int account, int cell) {
-            int place = placeOf(account, cell);
-            reads[place]++;
-        }
-
-        void addWrite(int account, int cell) {
-            int place = placeOf(account, cell);
-            writes[place]++;
-        }
-
-        private int placeOf(int account, int cell) {
+        void add(int account, int cell, boolean isWrite) {
             int place = account * CELLS + cell;
-            boolean isNew = reads[place] == 0 && writes[place] == 0;
-            if (isNew && count < places.length) {
+            if (!isWithin(place, places.length)) {
+                return;
+            }
+            if (reads[place] == 0 && writes[place] == 0 && count < places.length) {
                 places[count] = place;
                 count++;
             }
-            return place;
+            if (isWrite) {
+                writes[place]++;
+            } else {
+                reads[place]++;
+            }
         }
     }
 
@@ -511,6 +509,10 @@ public final class CallTraces {
             deepest = 0;
             touches.clear();
             tells.count = 0;
+        }
+
+        void askAgain(Trace other) {
+            ask(other.account, other.member, other.argument, other.limit, other.start);
         }
 
         void endWell(long with, long[] work) {
@@ -682,18 +684,15 @@ public final class CallTraces {
         int pushMath(long which) {
             long y = pop();
             long x = pop();
-            if (!isWithin(which, 5)) {
+            if (!isWithin(which, MATHS)) {
                 return INDEX;
-            }
-            if (which >= 3 && y == 0) {
-                return ZERO;
             }
             switch ((int) which) {
                 case 0: return push(x + y);
                 case 1: return push(x - y);
                 case 2: return push(x * y);
-                case 3: return push(y == 0 ? 0 : x / y);
-                default: return push(y == 0 ? 0 : x % y);
+                case 3: return y == 0 ? ZERO : push(x / y);
+                default: return y == 0 ? ZERO : push(x % y);
             }
         }
 
@@ -723,6 +722,7 @@ public final class CallTraces {
         final long[][] saved = new long[MOST_FRAMES][WORK_LONGS];
         final int[] savedTells = new int[MOST_FRAMES];
         final Frame[] frames = new Frame[MOST_FRAMES];
+        // Takes the steps of walks anew, so that no trace that is kept is written over.
         final Trace spare = new Trace();
         Trace trace = spare;
         int haltAt = NEVER;
@@ -735,16 +735,7 @@ public final class CallTraces {
             }
         }
 
-        void walkWhole(Trace asked) {
-            walk(asked, NEVER);
-        }
-
-        void walkAnew(Trace kept, int halt) {
-            spare.ask(kept.account, kept.member, kept.argument, kept.limit, kept.start);
-            walk(spare, halt);
-        }
-
-        private void walk(Trace asked, int halt) {
+        void walk(Trace asked, int halt) {
             trace = asked;
             haltAt = halt;
             System.arraycopy(asked.start, 0, work, 0, STATE_LONGS);
@@ -870,7 +861,7 @@ public final class CallTraces {
             int cell = (int) a;
             int failure = frame.push(work[cellPlace(frame.account, cell)]);
             if (failure == FINE) {
-                trace.touches.addRead(frame.account, cell);
+                trace.touches.add(frame.account, cell, false);
             }
             return failure;
         }
@@ -882,7 +873,7 @@ public final class CallTraces {
             }
             int cell = (int) a;
             work[cellPlace(frame.account, cell)] = it;
-            trace.touches.addWrite(frame.account, cell);
+            trace.touches.add(frame.account, cell, true);
             return FINE;
         }
 

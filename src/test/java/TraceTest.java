@@ -44,23 +44,38 @@ public final class TraceTest {
     ownNumbers();
   }
 
-  private static void reused() {
+  private static CallTraces reusedBy(int member) {
     CallTraces x = Checks.scene(2);
     Checks.put(x, 0, 0, o(Checks.SELF), o(Checks.CALL, 0, 1), o(Checks.READ, 0), o(Checks.TELL, 0), o(Checks.PUSH, 3), o(Checks.SEND, 1), o(Checks.PUSH, 2), o(Checks.RETURN));
     Checks.put(x, 0, 1);
     Checks.put(x, 0, 2, o(Checks.FAIL, 9));
     x.call(0, 0, 0, 100);
     x.drop();
-    x.call(0, 2, 0, 100);
-    x.drop();
-    x.call(0, 1, 0, 100);
-    int[] due = {0, 0, 0, 0, 1, 0, 0};
-    for (int what = 0; what < 7; what++) {
-      Checks.due("12: a new trace in an old one's place, " + what, x.trace(0, what), due[what]);
+    Checks.due("20: trace 0 is gone", x.tell(0, 0, 0, 0), Checks.UNKNOWN);
+    Checks.due("21: trace 0 is gone", x.told(0, 0), Checks.UNKNOWN);
+    Checks.due("18: trace 0 is gone", x.touch(0, 0, 0), Checks.UNKNOWN);
+    Checks.due("19: trace 0 is gone", x.flow(0, 0, false), Checks.UNKNOWN);
+    x.call(0, member, 0, 100);
+    return x;
+  }
+
+  private static void reused() {
+    int[][] due = {{0, 0, 0, 0, 1, 0, 0}, {1, 5, 9, 1, 1, 0, 0}};
+    for (int member = 1; member <= 2; member++) {
+      CallTraces x = reusedBy(member);
+      for (int what = 0; what < 7; what++) {
+        Checks.due("12: a new trace in an old one's place, " + what, x.trace(0, what), due[member - 1][what]);
+      }
+      Checks.due("13: a new trace in an old one's place", x.result(0), 0);
+      Checks.due("19: a new trace in an old one's place", x.flow(0, 0, false) + x.flow(0, 1, true), 0);
+      Checks.due("18: a new trace in an old one's place", x.touch(0, 0, 0), Checks.UNKNOWN);
+      Checks.due("20: a new trace in an old one's place", x.tell(0, 0, 0, 0), Checks.UNKNOWN);
     }
-    Checks.due("13: a new trace in an old one's place", x.result(0), 0);
-    Checks.due("19: a new trace in an old one's place", x.flow(0, 0, false) + x.flow(0, 1, true), 0);
-    Checks.due("18: a new trace in an old one's place", x.touch(0, 0, 0), Checks.UNKNOWN);
+    CallTraces y = reusedBy(2);
+    y.drop();
+    y.call(0, 1, 0, 100);
+    Checks.due("12: behind a failure: none", y.trace(0, 1), 0);
+    Checks.due("12: behind a failure: no number", y.trace(0, 2), 0);
   }
 
   private static void ownNumbers() {
@@ -381,6 +396,10 @@ public final class TraceTest {
     Checks.due("25: no steps", x.halves(4, 0), 0);
     Checks.due("25: trace 5", x.halves(0, 5), Checks.UNKNOWN);
     Checks.due("25: trace -1", x.halves(-1, 0), Checks.UNKNOWN);
+    x.drop();
+    x.call(0, 0, 1, 1);
+    x.call(0, 0, 1, 1);
+    Checks.due("25: one step", x.halves(0, 1), 1);
     CallTraces z = membersCompared();
     Checks.due("25: five alike", z.halves(0, 3), 3);
     Checks.due("25: another member: 3, 1", z.halves(0, 1), 2);
@@ -390,6 +409,11 @@ public final class TraceTest {
     y.call(0, 0, 1, 100);
     y.call(0, 0, 1, 100);
     y.call(0, 0, 2, 100);
+    Checks.due("14: a hundred steps", y.step(0, 99, 0), 1);
+    Checks.due("14: the step behind them", y.step(0, 100, 0), Checks.UNKNOWN);
+    Checks.due("16: a hundred steps", y.search(0, Checks.SELF, 0), Checks.NONE);
+    Checks.due("17: a hundred steps", y.flame(0, 0, 0, true), 100);
+    Checks.due("24: a hundred steps", y.compare(0, 1), Checks.NONE);
     Checks.due("25: a hundred alike: 50, 75, 88, 94, 97, 99, 100", y.halves(0, 1), 7);
     Checks.due("25: a hundred unlike: 50, 25, 12, 6, 3, 1", y.halves(0, 2), 6);
   }

@@ -15,6 +15,7 @@ public final class WalkTest {
     funds();
     calls();
     callFailures();
+    callsBeside();
     tries();
     triesDoNotCatch();
     limits();
@@ -236,6 +237,24 @@ public final class WalkTest {
     z.call(0, 0, 0, 100);
     Checks.due("NOTHING ahead of DEEP: six frames", z.trace(0, 4), 6);
     Checks.due("NOTHING ahead of DEEP", z.trace(0, 1), NOTHING);
+  }
+
+  /** Members just behind the last one, where the next account's first one would stand. */
+  private static void callsBeside() {
+    for (int kind = Checks.CALL; kind <= Checks.TRY; kind++) {
+      CallTraces x = Checks.scene(6);
+      Checks.put(x, 1, 0, o(Checks.SELF), o(kind, 0, 4));
+      Checks.put(x, 0, 3, o(Checks.SELF), o(kind, 1, -1));
+      Checks.put(x, 2, 0, o(Checks.SELF), o(kind, 5, 4));
+      Checks.put(x, 2, 1, o(Checks.SELF), o(kind, 6, 0));
+      Checks.put(x, 2, 2, o(Checks.SELF), o(kind, 0, -1));
+      int[][] called = {{1, 0}, {0, 3}, {2, 0}, {2, 1}, {2, 2}};
+      for (int i = 0; i < called.length; i++) {
+        x.call(called[i][0], called[i][1], 0, 100);
+        Checks.due("beside the members: failure " + i, x.trace(i, 1), NOTHING);
+        Checks.due("beside the members: steps " + i, x.trace(i, 0), 2);
+      }
+    }
   }
 
   private static void tries() {
