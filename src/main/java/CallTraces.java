@@ -738,8 +738,8 @@ public final class CallTraces {
         void walk(Trace asked, int halt) {
             trace = asked;
             haltAt = halt;
+            Arrays.fill(work, 0L);
             System.arraycopy(asked.start, 0, work, 0, STATE_LONGS);
-            Arrays.fill(work, SENT, WORK_LONGS, 0L);
             frames[0].open(asked.account, asked.member, asked.argument, NO_CALLER);
             int failure = walkFrame(0);
             if (failure == FINE) {
