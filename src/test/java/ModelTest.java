@@ -2,8 +2,11 @@ import java.util.Random;
 
 /** Runs of 512 calls drawn from fixed seeds, each answer held against the model's. */
 public final class ModelTest {
-  private static final int RUNS = 4000;
+  private static final int RUNS = 8000;
+  // What later calls answer is free.
   private static final int CALLS = 512;
+  // No turn makes more calls than this: one to write, and one for each byte and those beside them.
+  private static final int MOST_OF_A_TURN = 36;
   private static final long[] EDGES = {0, 1, -1, 2, 5, 7, 8, 1L << 32, Long.MIN_VALUE, Long.MAX_VALUE, 1000, 1000000000L};
 
   private static final int[] POPS = {0, 0, 1, 2, 1, 1, 1, 1, 0, 1, 1, 0, 0, 0, 0, 0};
@@ -16,6 +19,7 @@ public final class ModelTest {
   // Some runs draw few wrong numbers, so that walks get far; some draw many.
   private final int oddness;
   private final boolean tells;
+  private int made = 0;
 
   private ModelTest(int seed) {
     random = new Random(seed);
@@ -39,6 +43,7 @@ public final class ModelTest {
   }
 
   private void due(String what, long got, long want) {
+    made++;
     Checks.due(run + what, got, want);
   }
 
@@ -70,9 +75,10 @@ public final class ModelTest {
       int program = random.nextInt(programs + 1) - 1;
       due("member()", x.member(i / 4, i % 4, program), y.member(i / 4, i % 4, program));
     }
-    for (int made = 2 * accounts + 20 * programs + 4 * accounts; made < CALLS; made++) {
+    while (made <= CALLS - MOST_OF_A_TURN) {
       one(seen);
     }
+    Checks.due(run + "no more calls than an object is used for", made <= CALLS ? 1 : 0, 1);
   }
 
   private void fill(int program, int accounts) {
