@@ -245,6 +245,7 @@ public final class CallEdgeTest extends Checks {
         due("of calls themselves: the call's failure", x.trace(0, 1), caught ? 0 : i + 1);
         due("of calls themselves: result", x.result(0), caught ? -1 - i : 0);
         due("of calls themselves: none of the step", x.step(0, 1, 6), 0);
+        due("of calls themselves: none of the step ahead", x.step(0, 0, 6), 0);
         due("of calls themselves: its value", x.value(0, 1), 31);
       }
     }

@@ -739,6 +739,24 @@ public final class TermsEdgeTest extends Checks {
     x.call(0, 0, 0, 8);
     due("SPENT is not caught: just enough", x.trace(0, 1), 0);
     due("SPENT is not caught: steps", x.trace(0, 0), 8);
+    triesDoNotCatchSpentThoughMoreCouldBegin();
+  }
+
+  /** Behind the try the frame would end, or go on with ops that are cheap enough: it does neither. */
+  private static void triesDoNotCatchSpentThoughMoreCouldBegin() {
+    CallTraces x = scene(1);
+    put(x, 0, 0, o(SELF), o(TRY, 0, 2));
+    put(x, 0, 1, o(SELF), o(TRY, 0, 2), o(WRITE, 0), o(SELF), o(RETURN));
+    put(x, 0, 2, o(FROM));
+    put(x, 0, 3, o(SELF), o(TRY, 0, 0));
+    x.price(FROM, 50);
+    int[] members = {0, 1, 3};
+    for (int i = 0; i < 3; i++) {
+      x.call(0, members[i], 0, 49);
+      due("SPENT is not caught: failure of " + members[i], x.trace(i, 1), SPENT);
+      due("SPENT is not caught: steps of " + members[i], x.trace(i, 0), i == 2 ? 4 : 2);
+    }
+    due("SPENT is not caught: nothing is written behind it", x.cell(0, 0), 0);
   }
 
   /** "7 TRY: .. if that FAILS": what fails is the member that is walked, not the try itself. */
