@@ -48,10 +48,10 @@ public final class CallTraces {
     private static final long DIGEST_START = 17L;
     private static final long DIGEST_FACTOR = 0x9E3779B97F4A7C15L;
 
-    private final Contracts contracts = new Contracts();
+    private final Walker walker = new Walker();
+    private final Contracts contracts = walker.contracts;
     private final long[] now = new long[STATE_LONGS];
     private final Trace[] traces = new Trace[MOST_TRACES];
-    private final Walker walker = new Walker(contracts);
     private final Line line = new Line();
     private int traceCount = 0;
     private int callCount = 0;
@@ -716,7 +716,7 @@ public final class CallTraces {
 
     /** Walks on rows of its own, so that a walk that fails or is walked anew leaves the state alone. */
     private static final class Walker {
-        final Contracts contracts;
+        final Contracts contracts = new Contracts();
         // The state, then what was sent and got: whatever a failure undoes but for the tells.
         final long[] work = new long[WORK_LONGS];
         final long[][] saved = new long[MOST_FRAMES][WORK_LONGS];
@@ -728,8 +728,7 @@ public final class CallTraces {
         int haltAt = NEVER;
         long ownNumber = 0;
 
-        Walker(Contracts looked) {
-            contracts = looked;
+        Walker() {
             for (int i = 0; i < MOST_FRAMES; i++) {
                 frames[i] = new Frame();
             }

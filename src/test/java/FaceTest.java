@@ -108,6 +108,10 @@ public final class FaceTest {
         Checks.due(field + " is no static state", Modifier.isStatic(field.getModifiers()) && !Modifier.isFinal(field.getModifiers()) ? 1 : 0, 0);
       }
       Checks.due(inside + " has at most twenty fields", fields <= 20 ? 1 : 0, 1);
+      // Rule 12: a constructor that is given nothing can be handed nothing of an object that is being made.
+      for (Constructor<?> constructor : inside.getDeclaredConstructors()) {
+        Checks.due(constructor + " takes", constructor.getParameterCount(), 0);
+      }
       for (Method method : inside.getDeclaredMethods()) {
         Checks.due(method + " takes at most seven", method.getParameterCount() <= 7 ? 1 : 0, 1);
       }
